@@ -1,7 +1,0 @@
-public final class SmokeTest {
-    public static void main(String[] args) {
-        if (new TakerBook().digest() == 0) {
-            System.exit(1);
-        }
-    }
-}
