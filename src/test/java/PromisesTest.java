@@ -180,6 +180,9 @@ public final class PromisesTest {
         dueRow(x, 0, 2, 3, 4, 3, 4);
         due("copy of none at the ends", x.copy(0, 5, 1, 3, 0), 1);
         dueRow(x, 1, 2, 3, 8);
+        x.row(2, 0);
+        due("copy of none from a row of none", x.copy(2, 0, 1, 1, 0), 1);
+        due("copy of none to a row of none", x.copy(1, 1, 2, 0, 0), 1);
         promise6Refused(x);
     }
 
@@ -276,6 +279,8 @@ public final class PromisesTest {
         dueFault(x, "k1a34t122", 2);
         dueFault(x, "k12:4t122", 3);
         dueFault(x, "k/234t122", 1);
+        dueFault(x, "k:234t122", 1);
+        dueFault(x, "k1:34t122", 2);
         dueFault(x, "k1230t122", 4);
         dueFault(x, "k1237t122", 4);
         dueFault(x, "k1236", 5);
@@ -296,6 +301,11 @@ public final class PromisesTest {
         dueFault(x, "k1234t12 ", 8);
         dueFault(x, "k1234t123", 8);
         dueFault(x, "k1234tx22", 6);
+        dueFault(x, "k1234t:22", 6);
+        dueFault(x, "k1234t1:2", 7);
+        dueFault(x, " ".repeat(60), 60);
+        dueFault(x, "k1234t122" + " ".repeat(51), NONE);
+        dueFault(x, " ".repeat(56) + "k123", 60);
         dueFault(x, "k1234t1x2", 7);
         dueFault(x, "k1234t12x", 8);
         dueFault(x, "k1234t1220", 9);
@@ -677,6 +687,8 @@ public final class PromisesTest {
         dueTold(x, "safe() of a gang of three", x.safe(), 0, 0);
         x.give(1);
         dueTold(x, "safe() of a gang of two", x.safe(), 2, 5);
+        x = bookOf("k1111 l002 l002 l002 l002 l002 l002");
+        dueTold(x, "safe() by all", x.safe(), 6, 63);
         due("safe() without a book", new TakerBook().safe(), STATE);
         x = tried();
         dueTold(x, "safe() when tried", x.safe(), 1, 1);
@@ -697,8 +709,10 @@ public final class PromisesTest {
         dueTold(x, "silent() by one for the one or the other", x.silent(), 1, 1);
         due("count(2) stays", x.count(2), 0);
         dueTold(x, "thief(0, 3) stays", x.thief(0, 3), 1, 1);
+        x = bookOf("k1111 t190 t120 c902");
+        x.give(0);
+        dueTold(x, "silent() behind one not left", x.silent(), 1, 1);
         x = bookOf("k1101 t190");
-        x.at(0, 0);
         x.speak();
         dueTold(x, "silent() by none", x.silent(), NONE, 1);
         x = bookOf("k1101 l092");
@@ -844,7 +858,7 @@ public final class PromisesTest {
         dueFinding(x, "brings(0)", x.brings(0), NOTHING);
         lay(x, 0, 9, 9, 9, 9, 9);
         dueFinding(x, "brings of five", x.brings(0), SIZE);
-        int[][] unlike = {{3}, {-1}, {-8}, {-10}, {2}, {0, 0}, {1, NONE, 1}, {NONE, NONE, NONE, 6}, {LEAST}, {MOST}};
+        int[][] unlike = {{3}, {-1}, {-8}, {-10}, {2}, {0, 0}, {0, 1, 0}, {1, NONE, 1}, {NONE, NONE, NONE, 6}, {LEAST}, {MOST}};
         for (int[] plan : unlike) {
             lay(x, 0, plan);
             dueFinding(x, "brings of " + plan[0], x.brings(0), UNLIKE);
@@ -1006,6 +1020,12 @@ public final class PromisesTest {
         dueTold(x, "test(0, 2)", x.test(0, 2), 1, 1);
         lay(x, 2, 4, 0, 1);
         dueTold(x, "test(5, 2) of one kind", x.test(5, 2), 0, 1);
+        x = bookOf("k1232 t100 g290");
+        x.row(2, 0);
+        dueTold(x, "test(0, 2) of all kinds", x.test(0, 2), 0, 5);
+        lay(x, 2, 8, 0, 1, 0, 1, 1);
+        due("kinds(1, 2)", x.kinds(1, 2), 1 + 8 + 32);
+        dueTold(x, "test(1, 2) by fear 5, two crosses", x.test(1, 2), 52, 2);
         x = bookOf("k1232 t190 g280");
         x.row(2, 0);
         dueTold(x, "test(1, 2)", x.test(1, 2), 1, 3);
@@ -1034,6 +1054,12 @@ public final class PromisesTest {
         due("duel(1) makes one silent", x.duel(1), 2);
         due("duel(2) makes one speak again", x.duel(2), 3);
         due("duel(3)", x.duel(3), 2);
+        x = bookOf("k1114 t130");
+        due("duel(1) of one", x.duel(1), 0);
+        due("duel(2) of one", x.duel(2), 1);
+        x = bookOf("k1114 t152");
+        due("duel(1) of one who can have no more", x.duel(1), 0);
+        due("duel(2) of one who can have no more", x.duel(2), 1);
         x = bookOf("k1191 l090 l092");
         due("duel(1) of laces", x.duel(1), 1);
         due("duel(2) the other wants many", x.duel(2), 1);
