@@ -781,6 +781,10 @@ public final class PromisesTest {
         x.cross(0);
         due("best(1, 0) by giving the lace up", x.best(1, 0), 2 + 8);
         dueRow(x, 0, 0);
+        write(x, 0, "k0001 t000");
+        x.book(0);
+        due("best(1, 0) of nothing", x.best(1, 0), 0);
+        dueRow(x, 0, NONE);
         x = bookOf("k1201 t190 t290 r300");
         due("best(2, 0) first one, then the other", x.best(2, 0), 1);
         dueRow(x, 0, 0, NONE);
@@ -943,6 +947,7 @@ public final class PromisesTest {
         due("bold(0, 2) of a thief", x.bold(0, 2), 0);
         lay(x, 2, 9, 2, 0);
         due("bold(0, 2) silent", x.bold(0, 2), 1023);
+        lay(x, 2, 10, 3, 2);
         x.row(2, 0);
         due("bold(1, 2) by nothing", x.bold(1, 2), 1023);
         x = bookOf("k0006 g110 g110 y110");
@@ -1057,6 +1062,8 @@ public final class PromisesTest {
         x = bookOf("k1114 t130");
         due("duel(1) of one", x.duel(1), 0);
         due("duel(2) of one", x.duel(2), 1);
+        x = bookOf("k1114 t140");
+        due("duel(1) marks one cross, not two", x.duel(1), 1);
         x = bookOf("k1114 t152");
         due("duel(1) of one who can have no more", x.duel(1), 0);
         due("duel(2) of one who can have no more", x.duel(2), 1);
@@ -1089,6 +1096,8 @@ public final class PromisesTest {
         x = bookOf("k3326 t000 t000");
         dueTold(x, "sum(3) of like few the most heads", x.sum(3), 1, 1);
         dueTold(x, "sum(6)", x.sum(6), 2, 2);
+        x = bookOf("k3126 t000 t000 t002");
+        dueTold(x, "sum(6) when fewer heads come behind more", x.sum(6), 2, 2);
         x = bookOf("k0026 t002");
         dueTold(x, "sum(2) with no fee", x.sum(2), 1, 1);
         due("sum(4) with no fee", x.sum(4), NONE);
