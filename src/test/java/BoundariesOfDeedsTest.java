@@ -202,6 +202,11 @@ public final class BoundariesOfDeedsTest extends Sentences {
             b.due("on(2)", 5);
             b.due("undo(3)", 2);
             b.counts(6, 0, 3, 6, 0, 58, 0);
+            Book d = Book.of(CALM);
+            d.does("week()", "back(4)", "cross(2)", "keep(1)", "undo(0)", "give(1)", "week()", "cross(0)", "week()");
+            d.due("on(1)", 3);
+            d.counts(3, 1, 3, 12, 5, 7, 0);
+            d.each(3, 0, 0, 1);
             Book c = Book.of(BOLD);
             c.does("keep(0)", "week()", "keep(1)");
             c.due("on(0)", 0);

@@ -212,6 +212,14 @@ public final class BoundariesOfGoodsTest extends Sentences {
                 b.lay(0, 0, 2, 0);
                 b.told("test(1, 0)", 0, 1);
             });
+        sentence(33, "The FEAR (0 .. 9) and CROSSES (0 .. 2) told as 10 times FEAR and CROSSES,",
+            "k1232 t100 g290", b -> {
+                b.lay(0, 8, 0, 1, 0, 1, 1);
+                b.due("kinds(1, 0)", 1 + 8 + 32);
+                b.told("test(1, 0)", 52, 2);
+                b.lay(0, 8, 0, 1);
+                b.told("test(1, 0)", 1, 3);
+            });
         sentence(33, "NONE: there is no such KIND.", "k0006 t000 t190", b -> {
             b.lay(0, 9, 1, 1);
             b.does("at(0, 0)");
@@ -287,6 +295,8 @@ public final class BoundariesOfGoodsTest extends Sentences {
             b.told("sum(6)", 2, 2);
             b.told("sum(9)", 3, 2);
             b.told("sum(2)", 1, 1);
+            Book.of("k3106 t000 t000 t002").told("sum(6)", 2, 2);
+            Book.of("k3106 t002 t000 t000").told("sum(6)", 2, 2);
         });
         sentence(35, "NONE: by none.", "k1006 t000 t000", b -> {
             b.told("sum(2)", 2, 2);

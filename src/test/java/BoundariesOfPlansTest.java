@@ -59,6 +59,7 @@ public final class BoundariesOfPlansTest extends Sentences {
         sentence(23, "how many have then 2 by asked() (of those LEFT; of like few CROSSES the most).",
             "k0012 t151 t130", b -> {
                 b.told("silent()", 1, 1);
+                Book.of("k0012 t130 t151").told("silent()", 1, 1);
                 Book c = Book.of("k0001 t002 t902 t020");
                 c.told("silent()", 1, 2);
                 c.does("give(0)");

@@ -78,7 +78,7 @@ public final class BoundariesOfRowsTest extends Sentences {
 
     private static void promise5() {
         sentence(5, "A ROW is missing: 1.", "", b -> {
-            b.does("row(0, 0)", "row(5, 40)");
+            b.does("row(0, 0)", "row(5, 40)", "lay(5, 0, 7)");
             b.due("tear(5)", 1);
             b.due("tear(0)", 1);
             b.due("count(8)", 0);
@@ -136,7 +136,8 @@ public final class BoundariesOfRowsTest extends Sentences {
             b.finds(BEYOND, "copy(0, 0, 1, 0, 3)", "copy(1, 0, 0, 0, 3)", "copy(0, 2, 1, 0, 2)", "copy(1, 0, 0, 2, 2)",
                     "copy(0, 3, 1, 0, 1)", "copy(0, 0, 1, 2, 1)", "copy(0, -1, 1, 0, 2)", "copy(0, 0, 1, -1, 2)",
                     "copy(0, 1, 1, 0, MOST)", "copy(0, 0, 0, 1, MOST)", "copy(0, MOST, 1, 0, 1)",
-                    "copy(0, 0, 1, MOST, 1)", "copy(0, LEAST, 1, 0, 1)", "copy(0, MOST, 0, MOST, MOST)");
+                    "copy(0, 0, 1, MOST, 1)", "copy(0, LEAST, 1, 0, 1)", "copy(0, MOST, 0, MOST, MOST)",
+                    "copy(0, 1, 0, 1, MOST)", "copy(0, 3, 1, 2, MOST)");
             b.due("copy(0, 1, 1, 0, 2)", 1);
             b.holds(1, 2, 3);
         });
