@@ -111,6 +111,21 @@ public final class BoundariesOfAnswersTest extends Sentences {
             c.due("lots(20, 5)", 20);
             c.due("count(2)", 21);
         });
+        sentence(38, "it modulo 4: 0, 1 a WEEK, 2 the THIEF that it by 8, cut, modulo how many there are is given up,"
+            + " 3 a CROSS for him;", CALM, b -> {
+                b.due("lots(1, 1)", 1);
+                b.each(3, 1, 0, 0);
+                b.counts(3, 0, 1, 0, 0, 7, 0);
+                b.due("lots(1, 2)", 1);
+                b.counts(3, 0, 2, 5, 0, 5, 0);
+                b.due("lots(1, 3)", 1);
+                b.counts(3, 1, 3, 5, 6, 5, 0);
+                b.due("lots(1, 4)", 1);
+                b.counts(3, 2, 4, 5, 12, 5, 0);
+                for (int seed = 1; seed <= 6; seed++) {
+                    dueLots("k5326 t400 t310 c500 l100 r200 g300".substring(0, 5 + 5 * seed), 8, seed);
+                }
+            });
         sentence(38, "what can't be is a WEEK instead;", "", b -> {
             for (int seed = 1; seed <= 12; seed++) {
                 dueLots("k5326 t402", 20, seed);
