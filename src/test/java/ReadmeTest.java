@@ -16,6 +16,7 @@ public final class ReadmeTest extends Sentences {
     private static final Pattern EXAMPLE = Pattern.compile("(?s)```java\n(.*?)```");
     private static final Pattern TEXT = Pattern.compile("String text = \"([^\"]*)\";");
     private static final Pattern ANSWERED = Pattern.compile("(?m)^x\\.(\\w+\\([^;]*\\)); *// (-?\\d+)\\b");
+    private static final Pattern TABLE = Pattern.compile("(?s)\n### The calls\n(.*?)\n## ");
     private static final Pattern CALL = Pattern.compile("(?m)^x\\.\\w+\\(");
     private static final String LENGTH = "text.length()";
 
@@ -24,7 +25,7 @@ public final class ReadmeTest extends Sentences {
     private static void holds(String what, boolean held) {
         if (!held) {
             wrong++;
-            System.out.println("README.md: " + what);
+            System.out.println("README.md, not so: " + what);
         }
     }
 
@@ -44,7 +45,7 @@ public final class ReadmeTest extends Sentences {
         while (answered.find()) {
             String call = answered.group(1).replace(LENGTH, "" + text.group(1).length());
             long got = b.answer(call);
-            holds(call + " answered " + got + ", it says " + answered.group(2),
+            holds(call + " answers " + answered.group(2) + ", but " + got,
                     got == Long.parseLong(answered.group(2)));
             if (call.startsWith("text(0, ")) {
                 b.write(0, text.group(1));
@@ -61,9 +62,10 @@ public final class ReadmeTest extends Sentences {
                 calls.add(m.getName());
             }
         }
-        String tables = readme.substring(Math.max(0, readme.indexOf("### The calls")));
+        Matcher table = TABLE.matcher(readme);
+        String rows = table.find() ? table.group(1) : "";
         for (String name : calls) {
-            holds(name + "() is told of", tables.contains("`" + name + "("));
+            holds(name + "() is told of", rows.contains("`" + name + "("));
         }
         Object[][] constants = {{"BAD", TakerBook.BAD}, {"FULL", TakerBook.FULL}, {"FINDING", TakerBook.FINDING},
             {"STATE", TakerBook.STATE}, {"SPENT", TakerBook.SPENT}, {"NONE", TakerBook.NONE}};
